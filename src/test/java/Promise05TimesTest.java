@@ -27,6 +27,11 @@ public final class Promise05TimesTest {
         times -4003 0 0 = 1093
         times -4003 0 1 = 7097
         times -4003 0 2 = 7098
+        times -4000 0 1 = 7096
+        times -4000 0 2 = 7096
+        rule 0 16000 = 8192
+        times 0 5001 1 = 6313
+        times 0 5001 2 = 1879
         """);
     Runs.play("0 and 8192 themselves are not OVER", """
         rule 0 8192 = 10000
@@ -42,6 +47,13 @@ public final class Promise05TimesTest {
         times 0 -4730 1 = 0
         times 0 -4730 2 = 8192
         times 0 -4730 3 = 1
+        # one wire alone, by 1
+        times -5223 -413 0 = 0
+        times -5223 -413 2 = 8192
+        times -5223 -413 3 = 1
+        times -3928 2658 0 = 0
+        times -3928 2658 1 = 8192
+        times -3928 2658 3 = 1
         """);
     Runs.play("the greatest vectors and the least and greatest BUS", """
         rule 0 30000 = 10000

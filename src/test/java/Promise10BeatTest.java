@@ -237,6 +237,17 @@ public final class Promise10BeatTest {
         beat 1 = 2
         all = 2 0 94 961 213 678 3943 5030 3162 -111 3308 3435 96 0 -2580 77000 419620 0
         """);
+    Runs.play("the volts at their bounds, up and down", """
+        order 0 = 0
+        beat 64 = 2
+        rule 0 25000 = 10000
+        rule 5 3000 = 0
+        gain 0 0 4000 = 200
+        gain 1 0 4000 = 200
+        beat 1 = 2
+        told 9 = -14433
+        told 10 = 14433
+        """);
     Runs.play("SUMS do not wind up, and come back from beyond", """
         order 0 = 0
         beat 64 = 2

@@ -37,10 +37,10 @@ public final class Promise10FaultsTest {
         beat 64 = 2
         rule 5 20000 = 0
         rule 4 0 = 40000
-        beat 100 = 2
-        told 2 = -1420
-        told 3 = 1588
-        rule 3 1100 = 20000
+        beat 300 = 2
+        told 2 = -1263
+        told 3 = -76
+        rule 3 1000 = 20000
         beat 1 = 4
         told 1 = 1
         """);
