@@ -20,6 +20,19 @@ final class Model {
   private int state, fault;
   private boolean lost;
 
+  /** A model behind the calls of a table whose answers are looked at elsewhere. */
+  static Model led(String table) {
+    Model model = new Model();
+    for (String row : table.split("\n")) {
+      if (row.isBlank()) continue;
+      String[] words = row.substring(0, row.indexOf('=')).strip().split(" +");
+      List<Integer> a = new ArrayList<>();
+      for (int i = 1; i < words.length; i++) a.add(Integer.parseInt(words[i]));
+      model.answer(words[0], a);
+    }
+    return model;
+  }
+
   long answer(String call, List<Integer> a) {
     switch (call) {
       case "sine": return in(a, 0, 65535) ? sine(a.get(0)) : OUTSIDE;

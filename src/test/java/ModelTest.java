@@ -1,9 +1,9 @@
 import java.util.ArrayList;
 import java.util.List;
 
-/** All promises: runs of 512 drawn calls on the class and on the model, answer by answer. */
+/** All promises: drawn calls on the class and on the model, answer by answer, 512 of each object. */
 public final class ModelTest {
-  private static final int OBJECTS = 150, CALLS = 512;
+  private static final int OBJECTS = 300, DRAWN = 256;
   private static final String[] NAMES = {
     "beat", "beat", "beat", "beat", "order", "order", "rule", "rule", "gain", "told", "ring", "digest",
     "sine", "turned", "back", "times", "loop", "lose"};
@@ -25,10 +25,10 @@ public final class ModelTest {
     for (int object = 0; object < OBJECTS; object++) {
       TurnedFields x = new TurnedFields();
       Model model = new Model();
-      for (int call = 0; call < CALLS; call++) {
+      for (int call = 0; call < DRAWN; call++) {
         one(object + ":" + call, x, model);
-        states[x.told(0)]++;
-        faults[x.told(1)]++;
+        states[(int) model.answer("told", List.of(0))]++;
+        faults[(int) model.answer("told", List.of(1))]++;
       }
     }
     for (int i = 0; i < 5; i++) {

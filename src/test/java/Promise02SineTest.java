@@ -31,8 +31,10 @@ public final class Promise02SineTest {
   }
 
   private static void everyAngle() {
-    TurnedFields x = new TurnedFields();
+    TurnedFields x = null;
     for (int angle = 0; angle < 65536; angle++) {
+      // An object is promised 512 calls and no more.
+      if (angle % 512 == 0) x = new TurnedFields();
       Runs.due("sine(" + angle + ")", x.sine(angle), exactly(angle));
     }
   }

@@ -6,7 +6,6 @@ public final class Promise10BeatTest {
     running();
     braking();
     limits();
-    theMotorsBounds();
     Runs.end();
   }
 
@@ -104,26 +103,6 @@ public final class Promise10BeatTest {
         beat 9 = 2
         all = 2 0 -341 690 -4815 36031 4209 3984 4096 -94 128 5962 104 0 -36460 -40020 -137080 0
         """);
-    Runs.play("at the CORNER itself no D current is wanted, by 1 above it -1", """
-        order 0 = 0
-        beat 64 = 2
-        rule 5 3000 = 0
-        beat 30 = 2
-        told 4 = 4663
-        told 2 = -89
-        told 14 = -30620
-        gain 0 0 256 = 200
-        gain 0 1 0 = 20
-        rule 4 4663 = 40000
-        beat 1 = 2
-        told 9 = -31
-        told 4 = 4732
-        told 2 = -82
-        told 14 = -30620
-        rule 4 4731 = 4663
-        beat 1 = 2
-        told 9 = -39
-        """);
     Runs.play("OVER in a beat", """
         order 0 = 0
         beat 64 = 2
@@ -159,45 +138,6 @@ public final class Promise10BeatTest {
         all = 0 0 3 -2986 -254 29892 0 0 0 0 0 6036 287 0 0 0 0 0
         beat 1 = 0
         all = 0 0 4 -2791 -440 29782 0 0 0 0 0 6131 288 0 0 0 0 0
-        """);
-    Runs.play("a pace of 64 is not low", """
-        order 0 = 0
-        beat 64 = 2
-        rule 5 1185 = 0
-        beat 50 = 2
-        order 1 = 2
-        beat 16 = 3
-        told 4 = 64
-        beat 1 = 0
-        """);
-    Runs.play("nor is one of -64", """
-        order 0 = 0
-        beat 64 = 2
-        rule 5 -2783 = 0
-        beat 50 = 2
-        order 1 = 2
-        beat 18 = 3
-        told 4 = -64
-        """);
-    Runs.play("63 is", """
-        order 0 = 0
-        beat 64 = 2
-        rule 5 -1607 = 0
-        beat 50 = 2
-        order 1 = 2
-        beat 16 = 3
-        beat 1 = 0
-        told 4 = 63
-        """);
-    Runs.play("and so is -63", """
-        order 0 = 0
-        beat 64 = 2
-        rule 5 -1145 = 0
-        beat 50 = 2
-        order 1 = 2
-        beat 15 = 3
-        beat 1 = 0
-        told 4 = -63
         """);
     Runs.play("BRAKE at no pace is over behind one beat", """
         order 0 = 0
@@ -263,96 +203,6 @@ public final class Promise10BeatTest {
         all = 2 0 71 2734 11136 2797 3755 3148 5044 -279 -1336 12031 115 0 -57240 425460 0 0
         beat 40 = 2
         all = 2 0 -2 -208 10920 49987 4990 3202 3580 24 1329 10452 155 0 5560 337960 0 0
-        """);
-  }
-
-  private static void theMotorsBounds() {
-    String fast = """
-        order 0 = 0
-        beat 64 = 2
-        rule 0 25000 = 10000
-        rule 3 32000 = 20000
-        rule 4 60000 = 40000
-        """;
-    Runs.play("PACE up to 60000", fast + """
-        rule 5 60000 = 0
-        rule 2 -2000 = 0
-        beat 177 = 2
-        all = 2 0 16 2858 59816 14476 3551 6284 1908 -1468 7653 24867 241 0 -366580 1976360 646260 0
-        beat 1 = 2
-        all = 2 0 -20 2701 60000 29476 2198 5975 5994 -1446 7568 24881 242 0 -366900 1972840 649940 0
-        beat 1 = 2
-        all = 2 0 -64 2552 60000 44476 3599 1931 6261 -1417 7566 24883 243 0 -366500 1969580 649940 0
-        """);
-    Runs.play("PACE down to -60000", fast + """
-        rule 5 -60000 = 0
-        rule 2 2000 = 0
-        beat 178 = 2
-        all = 2 0 -20 -2705 -60000 35913 2183 6009 5930 -1446 -7571 24872 242 0 -367000 -1973440 -650220 0
-        beat 1 = 2
-        all = 2 0 -63 -2555 -60000 20913 3651 6264 1928 -1417 -7567 24874 243 0 -366600 -1970140 -650220 0
-        """);
-    Runs.play("Q up to 32000", fast + """
-        rule 2 2000 = 0
-        rule 5 -58000 = 0
-        beat 250 = 2
-        rule 1 20000 = 4000
-        rule 5 60000 = -58000
-        gain 2 0 4000 = 200
-        gain 1 0 0 = 200
-        gain 1 1 240 = 20
-        beat 1 = 2
-        gain 1 1 0 = 240
-        beat 10 = 2
-        all = 2 0 -6947 32000 -45891 15842 260 5203 7932 8723 10588 115044 325 0 895020 2710740 406320 0
-        beat 1 = 4
-        all = 4 4 -9313 30827 -44016 4838 0 0 0 0 0 130418 326 0 0 0 0 0
-        """);
-    Runs.play("Q down to -32000", fast + """
-        rule 2 -2000 = 0
-        rule 5 58000 = 0
-        beat 250 = 2
-        rule 1 20000 = 4000
-        rule 5 -60000 = 58000
-        gain 2 0 4000 = 200
-        gain 1 0 0 = 200
-        gain 1 1 240 = 20
-        beat 1 = 2
-        gain 1 1 0 = 240
-        beat 10 = 2
-        all = 2 0 -6946 -32000 45891 49488 248 7944 5074 8723 -10590 115050 325 0 895120 -2710800 -406460 0
-        """);
-    Runs.play("D up to 32000", fast + """
-        rule 5 30000 = 0
-        beat 400 = 2
-        beat 400 = 2
-        rule 4 0 = 60000
-        beat 4 = 2
-        rule 4 60000 = 0
-        gain 0 0 0 = 200
-        gain 0 1 3150 = 20
-        beat 1 = 2
-        gain 0 1 0 = 3150
-        rule 1 8000 = 4000
-        rule 5 60000 = 30000
-        gain 2 0 4000 = 200
-        beat 11 = 2
-        all = 2 0 32000 3283 32190 53437 6821 0 8192 14410 11388 83234 880 1 3688970 2014480 -2060 0
-        beat 1 = 2
-        all = 2 0 32000 3089 32395 61535 8192 0 3584 14410 11922 98679 881 1 3688970 2108820 -2060 0
-        """);
-    Runs.play("D down to -32000", fast + """
-        rule 5 58000 = 0
-        beat 300 = 2
-        rule 4 0 = 60000
-        gain 0 0 0 = 200
-        gain 0 1 1200 = 20
-        beat 1 = 2
-        gain 0 1 0 = 1200
-        rule 1 14000 = 4000
-        rule 5 0 = 58000
-        beat 9 = 2
-        all = 2 0 -32000 -5611 54951 9308 191 8001 7551 -14393 -5653 101424 374 0 -3684520 157860 -346440 0
         """);
   }
 }

@@ -45,25 +45,6 @@ public final class Promise12RingTest {
         ring LEAST 0 = NONE
         ring GREATEST 2 = NONE
         """);
-    twentyAreKept();
     Runs.end();
-  }
-
-  private static void twentyAreKept() {
-    TurnedFields x = new TurnedFields();
-    for (int change = 0; change < 47; change++) {
-      x.order(change % 2 == 0 ? 0 : 3);
-      x.beat(1);
-      int held = Math.min(change + 1, 20);
-      for (int i = 0; i < held; i++) {
-        int then = change - i;
-        String call = "behind " + (change + 1) + " changes ring(" + i + ", ";
-        Runs.due(call + "0)", x.ring(i, 0), then);
-        Runs.due(call + "1)", x.ring(i, 1), then % 2 == 0 ? 1 : 0);
-        Runs.due(call + "2)", x.ring(i, 2), 0);
-      }
-      Runs.due("behind " + (change + 1) + " changes ring(" + held + ", 0)", x.ring(held, 0), -1);
-      Runs.due("behind " + (change + 1) + " changes ring(-1, 0)", x.ring(-1, 0), -1);
-    }
   }
 }

@@ -25,8 +25,8 @@ public final class Promise14DigestTest {
     TurnedFields x = new TurnedFields();
     x.rule(5, -7000);
     x.order(0);
-    for (int i = 0; i < 100; i++) {
-      x.beat(i % 5);
+    for (int i = 0; i < 25; i++) {
+      x.beat(i % 7);
       long d = 7;
       for (int what = 0; what <= 17; what++) d = (31 * d + x.told(what)) % (1L << 32);
       Runs.due("digest() at " + i, x.digest(), (int) d);
