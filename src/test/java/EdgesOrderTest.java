@@ -27,6 +27,7 @@ public final class EdgesOrderTest {
     heatStays();
     lostAside();
     toRestAtOnce();
+    untilTheNextBeat();
     Runs.end();
   }
 
@@ -47,6 +48,11 @@ public final class EdgesOrderTest {
     }
     Runs.due(call + ", then told(0)", x.told(0), behind);
     Runs.due(call + ", then told(1)", x.told(1), 0);
+    // Only a BEAT sets what is told by these numbers.
+    for (int told = 2; told <= 16; told++) {
+      Runs.due(call + ", then told(" + told + ")", x.told(told), ahead.get(told));
+    }
+    Runs.due(call + ", then told(17)", x.told(17), 0);
     Runs.due(call + ", then ring(0, 0)", x.ring(0, 0), x.told(12));
     Runs.due(call + ", then ring(0, 1)", x.ring(0, 1), behind);
     Runs.due(call + ", then ring(0, 2)", x.ring(0, 2), 0);
@@ -152,6 +158,56 @@ public final class EdgesOrderTest {
         told 0 = 0
         told 17 = 0
         order 3 = NOT
+        """);
+  }
+
+  private static void untilTheNextBeat() {
+    String says = "ON-TIMES, volts and SUMS are set by a BEAT, not by an order: ";
+    Runs.play(says + "RUN to BRAKE, whose first BEAT goes on with the SUMS of RUN", Ways.RUN + """
+        rule 5 3000 = 0
+        beat 20 = 2
+        all = 2 0 -222 3005 3290 7022 3689 4503 3816 -45 619 5711 84 0 -60140 252040 703500 0
+        order 1 = 2
+        all = 3 0 -222 3005 3290 7022 3689 4503 3816 -45 619 5711 84 0 -60140 252040 703500 0
+        beat 1 = 3
+        all = 3 0 -201 2300 3477 7891 5183 3009 4894 -45 -1667 5770 85 0 -55700 190340 637700 0
+        """);
+    Runs.play(says + "RUN to REST to ALIGN with no BEAT between, whose RUN goes on with the SUMS", Ways.RUN + """
+        rule 5 3000 = 0
+        beat 20 = 2
+        order 3 = 2
+        order 0 = 0
+        all = 1 0 -222 3005 3290 7022 3689 4503 3816 -45 619 5711 84 0 -60140 252040 703500 0
+        beat 64 = 2
+        all = 2 0 2287 -937 619 0 4464 3729 3729 600 0 9094 148 0 -60140 252040 703500 0
+        beat 1 = 2
+        all = 2 0 1593 406 561 140 1392 7803 390 -2201 5227 9100 149 0 -105880 350780 703500 0
+        """);
+    Runs.play(says + "RUN to REST to ALIGN with a BEAT between, which sets them to 0", Ways.RUN + """
+        rule 5 3000 = 0
+        beat 20 = 2
+        order 3 = 2
+        beat 1 = 0
+        all = 0 0 -190 2716 3477 7891 0 0 0 0 0 5802 85 0 0 0 0 0
+        order 0 = 0
+        beat 64 = 2
+        all = 2 0 2290 -904 566 0 4464 3729 3729 600 0 9084 149 0 0 0 0 0
+        """);
+    Runs.play(says + "OVER is that of the latest BEAT, behind each order", """
+        rule 0 100 = 10000
+        order 0 = 0
+        beat 64 = 2
+        told 13 = 1
+        order 1 = 2
+        told 13 = 1
+        order 3 = 3
+        told 13 = 1
+        order 0 = 0
+        told 13 = 1
+        order 3 = 1
+        told 13 = 1
+        beat 1 = 0
+        told 13 = 0
         """);
   }
 }

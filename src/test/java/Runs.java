@@ -74,7 +74,7 @@ final class Runs {
     return numbers;
   }
 
-  private static int number(String word) {
+  static int number(String word) {
     switch (word) {
       // Written out here, so that a wrong constant of the class does not hide itself.
       case "NONE": return -1;
